@@ -748,7 +748,9 @@ public final class OrbitsWed {
         }
 
         int firstFreeDay(int set, int from) {
-            for (int day = from; day <= LAST_DAY; day++) {
+            // Behind the common round of all there is nothing new, as with two.
+            long last = Math.min(LAST_DAY, from + togetherAgain((1 << sky.size) - 1));
+            for (int day = from; day <= last; day++) {
                 if (isFree(set, day)) {
                     return day;
                 }

@@ -141,6 +141,10 @@ public final class Promises {
         due("round", x.of(0, ROUND), 6);
         due("place", x.of(1, PLACE), 4);
         due("weights", 10 * x.of(0, WEIGHT) + x.of(1, WEIGHT), 20);
+        OrbitsWed y = new OrbitsWed();
+        rowOf(y, 5, BYTES, 7, 6, 9, 8, 7, 0);
+        due("no more than wanted", y.orbs(5, 0, 1), 1);
+        due("up to its very end", y.orbs(5, 0, 8), 2);
         due("from a place on", x.orbs(0, 3, 1), 1);
         due("that one", x.of(2, ROUND), 9);
         due("behind its end", x.orbs(0, 8, 1), 0);
@@ -172,6 +176,7 @@ public final class Promises {
         due("place then", x.of(0, PLACE), 4);
         due("place as the round", x.mend(0, PLACE, 5), VOID);
         due("place -1", x.mend(0, PLACE, -1), VOID);
+        due("place 0", x.mend(0, PLACE, 0), 4);
         due("weight", x.mend(1, WEIGHT, 9), 1);
         due("weight 10", x.mend(1, WEIGHT, 10), VOID);
         due("weight 0", x.mend(1, WEIGHT, 0), 9);
@@ -192,6 +197,11 @@ public final class Promises {
         due("what -1", x.mend(0, -1, 0), VOID);
         due("missing one", x.mend(2, WEIGHT, 0), VOID);
         due("kept", x.of(1, LIKES), 9);
+        OrbitsWed y = sky(5, 0, 5, 0, 5, 0, 5, 0);
+        y.mend(30, LIKES, 7);
+        due("of the fourth for the first", y.of(30, LIKES), 7);
+        due("not of the third", y.of(20, LIKES), 0);
+        due("not of the first", y.of(3, LIKES), 0);
     }
 
     private static void of() {
@@ -361,6 +371,7 @@ public final class Promises {
         promise = 11;
         OrbitsWed x = sky(2, 0, 3, 1);
         due("12 days", x.often(1, 0, 12), 2);
+        due("2 days", x.often(1, 0, 2), 0);
         due("one day", x.often(1, 2, 1), 1);
         due("another day", x.often(1, 3, 1), 0);
         due("beyond the last day", x.often(1, 99999, 999), 166);
@@ -421,6 +432,7 @@ public final class Promises {
         due("it", x.best(0, 10, 0), 2);
         due("that", x.best(0, 10, 1), 3);
         due("from a day on", x.best(0, 3010, 0), 8);
+        due("the second of two days", x.best(0, 1002, 0), 2);
         due("one day", x.best(0, 2001, 1), 3);
         due("too few days", x.best(0, 2, 1), 0);
         x.mend(1, LIKES, -3);
@@ -439,6 +451,7 @@ public final class Promises {
         OrbitsWed x = sky(2, 0, 3, 1);
         due("first", x.sign(3, 2, 0), 3);
         due("on the day itself", x.sign(1, 0, 0), 0);
+        due("on the last day", x.sign(1, 99999, 0), 99999);
         due("how many", x.sign(3, 0, 6), 5);
         due("none in one day", x.sign(1, 2, 1), 0);
         due("an empty set", x.sign(0, 7, 0), 7);
@@ -549,6 +562,8 @@ public final class Promises {
         due("as days began", x.met(1, 5), 1);
         due("the other way", x.met(10, 5), 1);
         due("no days", x.met(1, 0), 0);
+        due("as near", sky(36, 0, 36, 1).met(1, 1), 1);
+        due("not as near", sky(36, 0, 36, 2).met(1, 1), 0);
         x.mend(1, LIKES, 0);
         due("all days", x.met(1, 200), 200);
         due("201 days", x.met(1, 201), BAD);
@@ -569,6 +584,10 @@ public final class Promises {
         due("too late", z.again(0), NOT);
         due("too late, too", z.again(1), NOT);
         due("just in time", sky(60, 0, 50, 0).again(0), 300);
+        OrbitsWed pushed = sky(10, 0, 10, 0);
+        lawOf(pushed, "d<3");
+        due("d as ever", pushed.again(0), 7);
+        due("all as now", pushed.again(1), 0);
         due("what 2", x.again(2), BAD);
         due("what -1", x.again(-1), BAD);
     }
@@ -646,6 +665,7 @@ public final class Promises {
         due("three nudges", x.byTurns(1, 9, 30), 1);
         due("on first", x.byTurns(1, 9, 31), 1);
         due("back", x.byTurns(3, 0, 11), -1);
+        due("of the fourth", x.byTurns(30, 0, 11), 1);
         due("any will do", x.byTurns(2, 0, 11), -1);
         due("stay: the other one cannot part them", x.byTurns(2, 0, 21), 0);
         due("six", x.byTurns(2, 0, 60), 1);
@@ -1032,6 +1052,8 @@ public final class Promises {
         x.keep(3, x.body(0));
         due("a mood", x.shift(3, 0, 3, 0, 0), -12);
         due("to a mood", x.shift(0, 0, 3, 0, 0), -12);
+        rowOf(x, 5, BYTES, 1);
+        due("bytes to a mood", x.shift(5, 0, 3, 0, 0), -12);
         due("nothing there", x.shift(4, 0, 0, 0, 0), -11);
         due("to nothing", x.shift(3, 0, 4, 0, 0), -11);
         due("no shelf", x.shift(6, 0, 0, 0, 0), BAD);
