@@ -45,7 +45,7 @@ public final class OrbitsWed {
     }
 
     public int orbs(int shelf, int i, int n) {
-        if (!Shelves.isShelf(shelf) || i < 0 || n < 1 || n > MOST_BODIES) {
+        if (!Shelves.isShelf(shelf) || n < 1 || n > MOST_BODIES) {
             return BAD;
         }
         if (shelves.isEmpty(shelf)) {
@@ -464,12 +464,13 @@ public final class OrbitsWed {
         return n >= 0 && n <= MOST_PUSHED;
     }
 
+    // A row has no place ahead of its first one: from there it ends at once, as behind its last one.
     private int bodiesFrom(int shelf, int from, int n) {
         long[] values = shelves.values[shelf];
         int length = shelves.lengths[shelf];
         int came = 0;
         int i = from;
-        for (int k = 0; k < n && i <= length - 3; k++) {
+        for (int k = 0; k < n && i >= 0 && i <= length - 3; k++) {
             int round = (int) values[i];
             int place = (int) values[i + 1];
             int weight = (int) values[i + 2];

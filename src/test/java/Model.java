@@ -48,7 +48,7 @@ final class Model {
     }
 
     int orbs(int shelf, int i, int n) {
-        if (shelf < 0 || shelf > 5 || n < 1 || n > 8 || i < 0) return BAD;
+        if (shelf < 0 || shelf > 5 || n < 1 || n > 8) return BAD;
         if (shelves[shelf] != null && !(shelves[shelf] instanceof byte[])) return -12;
         int came = 0;
         try {

@@ -146,7 +146,7 @@ public final class RunsAgainstModel {
             int v = random.nextInt(12) == 0 ? in(-1, 70) : i % 3 == 0 ? in(1, 60) : 0;
             note("put", x.put(shelf, i, v), m.put(shelf, i, v), shelf, i, v);
         }
-        int from = random.nextInt(4) == 0 ? in(0, 4) : 0, n = in(1, 4);
+        int from = random.nextInt(4) == 0 ? in(-4, 4) : 0, n = in(1, 4);
         if (got == want) note("orbs", x.orbs(shelf, from, n), m.orbs(shelf, from, n), shelf, from, n);
     }
 
