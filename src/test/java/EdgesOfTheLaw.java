@@ -556,6 +556,10 @@ final class EdgesOfTheLaw extends Edge {
         due("what is fed is no law yet", x.later(0, 1), 6);
         due("law of 3", x.law(), 1);
         due("by 3", x.later(0, 1), 4);
+        due("law of many lines", lawOf(x, "0?1;0?2;0?3;4;5;6"), 1);
+        due("by 4", x.later(0, 1), 5);
+        due("a shorter one", lawOf(x, "0?9"), 1);
+        due("of whose lines none counts: nothing of the longer one", x.later(0, 1), 1);
         fed(x, times("(", 120));
         due("law of 120 brackets", x.law(), -106);
         due("the tape has room again", x.feed('1'), 1);
