@@ -821,24 +821,30 @@ public final class OrbitsWed {
 
         /** The least nudge that makes the first one sure of the meeting; NOT: none does. */
         int firstWinningNudge(int one, int other, int day, int turns) {
+            // From the last nudge back to the second: the odd ones are the first one's, the even ones the other's.
+            int winning = movesToMeet(one, other, day);
+            for (int turn = turns; turn > 1; turn--) {
+                int back = winning << 1;
+                int on = winning >> 1;
+                winning = turn % 2 == 1 ? winning | back | on : winning & back & on;
+            }
             for (int v = -1; v <= 1; v++) {
-                if (endsMet(one, v, other, day, turns - 1, false)) {
+                if ((winning >> (MOST_TURNS + v) & 1) == 1) {
                     return v;
                 }
             }
             return NOT;
         }
 
-        private boolean endsMet(int one, int moved, int other, int day, int turns, boolean wanted) {
-            if (turns <= 0 || turns > MOST_TURNS) {
-                return sky.meetMoved(one, moved, other, day);
-            }
-            for (int v = -1; v <= 1; v++) {
-                if (endsMet(one, moved + v, other, day, turns - 1, !wanted) == wanted) {
-                    return wanted;
+        /** By how many places the one may be moved now to meet: bit 0 for as far back as all nudges lead. */
+        private int movesToMeet(int one, int other, int day) {
+            int bits = 0;
+            for (int moved = -MOST_TURNS; moved <= MOST_TURNS; moved++) {
+                if (sky.meetMoved(one, moved, other, day)) {
+                    bits |= 1 << (MOST_TURNS + moved);
                 }
             }
-            return !wanted;
+            return bits;
         }
 
         // The least arc begins at one of them: from each, the longest way on to any other.

@@ -326,6 +326,15 @@ final class EdgesOfPushes extends Edge {
         due("near 6, 3 off, five nudges", x.byTurns(4, 0, 50), 0);
         due("on the last day", x.byTurns(1, 99999, 60), 1);
         due("round 1 stays where it is", sky(1, 0, 1, 0).byTurns(1, 0, 60), 1);
+        OrbitsWed narrow = sky(60, 1, 40, 1);
+        narrow.mend(0, NEAR, 3);
+        due("two places meet, two nudges: from each there is a way out", narrow.byTurns(1, 0, 20), 0);
+        due("six nudges: as well", narrow.byTurns(1, 0, 60), 0);
+        due("three nudges: the last one comes back", narrow.byTurns(1, 0, 30), 1);
+        OrbitsWed round2 = sky(2, 0, 2, 1);
+        due("round 2, one nudge", round2.byTurns(1, 0, 10), 1);
+        due("round 2, two nudges: the other one leads where it likes", round2.byTurns(1, 0, 20), 0);
+        due("round 2, five nudges: the first one does", round2.byTurns(1, 0, 50), 1);
         due("nothing is nudged", x.of(0, PLACE) + x.led(3), 0);
         OrbitsWed last = sky(60, 9, 60, 9, 60, 9, 60, 9, 60, 9, 60, 9, 1, 0, 60, 2);
         due("the last one, 12 off the one ahead of it", last.byTurns(76, 0, 10), 1);
